@@ -77,9 +77,7 @@ public final class LateIndex {
     private final Store[] images = new Store[IMAGES];
     private final boolean[] imageMade = new boolean[IMAGES];
 
-    private final int[] tape = new int[TAPE_ROOM];
-    private int tapeLength;
-    private final Reader reader = new Reader(tape);
+    private final Tape tape = new Tape();
     private int latestWhy;
 
     private Question question = new Question();
@@ -119,32 +117,24 @@ public final class LateIndex {
         if (!areNumbers(a, b, c)) {
             return BAD_NUMBER;
         }
-        Transaction one = store.transactions[t];
-        if (!one.open) {
-            return NOT_NOW;
-        }
-        if (!one.hasRoomFor(row)) {
-            return TOO_MANY;
+        int refusal = refusalOfWrite(t, row);
+        if (refusal != 0) {
+            return refusal;
         }
         remember();
+        Transaction one = store.transactions[t];
         one.write(row, packed(a, b, c));
         return one.writes;
     }
 
     public int erase(int t, int row) {
-        if (!isTransaction(t) || !isRow(row)) {
-            return NO_SUCH;
-        }
-        Transaction one = store.transactions[t];
-        if (!one.open) {
-            return NOT_NOW;
-        }
-        if (!one.hasRoomFor(row)) {
-            return TOO_MANY;
+        int refusal = refusalOfWrite(t, row);
+        if (refusal != 0) {
+            return refusal;
         }
         remember();
         int seen = store.valueSeen(t, row);
-        one.write(row, ABSENT);
+        store.transactions[t].write(row, ABSENT);
         return seen == ABSENT ? 0 : 1;
     }
 
@@ -208,31 +198,30 @@ public final class LateIndex {
     // ---- indexes
 
     public int feed(int a, int b, int c, int d, int e) {
-        if (tapeLength + BYTES_FED > TAPE_ROOM) {
+        if (tape.filled + BYTES_FED > TAPE_ROOM) {
             return TOO_MANY;
         }
-        layOnTape(a);
-        layOnTape(b);
-        layOnTape(c);
-        layOnTape(d);
-        layOnTape(e);
-        return tapeLength;
+        tape.append(a);
+        tape.append(b);
+        tape.append(c);
+        tape.append(d);
+        tape.append(e);
+        return tape.filled;
     }
 
     public int build(int i, int n) {
         if (!isIndex(i)) {
             return NO_SUCH;
         }
-        if (n < 0 || n > tapeLength) {
+        if (n < 0 || n > tape.filled) {
             return BAD_NUMBER;
         }
         OneIndex one = store.indexes[i];
         if (one.state != NO_INDEX) {
             return NOT_NOW;
         }
-        tapeLength = 0;
-        if (!reader.readDefinition(n, freshDefinition)) {
-            return FAULTY - reader.faultKind;
+        if (!tape.readDefinition(n, freshDefinition)) {
+            return FAULTY - tape.faultKind;
         }
         remember();
         one.start(freshDefinition, store.seq);
@@ -241,9 +230,9 @@ public final class LateIndex {
 
     public int fault(int what) {
         if (what == 0) {
-            return reader.faultKind;
+            return tape.faultKind;
         }
-        return what == 1 ? reader.faultPlace : NONE;
+        return what == 1 ? tape.faultPlace : NONE;
     }
 
     public int work(int i, int n) {
@@ -402,12 +391,11 @@ public final class LateIndex {
     }
 
     public int query(int n) {
-        if (n < 0 || n > tapeLength) {
+        if (n < 0 || n > tape.filled) {
             return BAD_NUMBER;
         }
-        tapeLength = 0;
-        if (!reader.readQuestion(n, spareQuestion)) {
-            return FAULTY - reader.faultKind;
+        if (!tape.readQuestion(n, spareQuestion)) {
+            return FAULTY - tape.faultKind;
         }
         Question elder = question;
         question = spareQuestion;
@@ -554,7 +542,7 @@ public final class LateIndex {
             case 2: return store.openTransactions();
             case 3: return store.versions.inAll();
             case 4: return store.hasLastRound() ? 1 : 0;
-            case 5: return tapeLength;
+            case 5: return tape.filled;
             case 6: return undoable;
             case 7: return store.shortLog;
             case 8: return store.mostRounds;
@@ -618,13 +606,15 @@ public final class LateIndex {
         }
     }
 
-    private void layOnTape(int four) {
-        for (int shift = 24; shift >= 0; shift -= 8) {
-            if (tapeLength < TAPE_ROOM) {
-                tape[tapeLength] = (four >>> shift) & 255;
-                tapeLength++;
-            }
+    private int refusalOfWrite(int t, int row) {
+        if (!isTransaction(t) || !isRow(row)) {
+            return NO_SUCH;
         }
+        Transaction one = store.transactions[t];
+        if (!one.open) {
+            return NOT_NOW;
+        }
+        return one.hasRoomFor(row) ? 0 : TOO_MANY;
     }
 
     private int refusalOfKey(int i, int a, int b, int c) {
@@ -1057,7 +1047,7 @@ public final class LateIndex {
             endedBy = reason;
         }
 
-        /** Taken up again. */
+        /** The scan is over, or it is taken up again. */
         void goOn() {
             state = CATCHING_UP;
             nextRound();
@@ -1589,21 +1579,18 @@ public final class LateIndex {
             return false;
         }
 
+        /** The column behind those by = counts as well: with no condition by < or > it adds nothing. */
         private int stretchColumns(Order order) {
-            int columns = 0;
-            for (int k = 0; k < order.size && isAsked(order.columns[k], LIKE); k++) {
-                columns++;
+            int likes = 0;
+            while (likes < order.size && isAskedByLike(order.columns[likes])) {
+                likes++;
             }
-            if (columns < order.size) {
-                int next = order.columns[columns];
-                columns += isAsked(next, LESS) || isAsked(next, MORE) ? 1 : 0;
-            }
-            return columns;
+            return likes + 1;
         }
 
-        private boolean isAsked(int column, int op) {
+        private boolean isAskedByLike(int column) {
             for (int k = 0; k < size; k++) {
-                if (conditions[k].column == column && conditions[k].op == op) {
+                if (conditions[k].column == column && conditions[k].op == LIKE) {
                     return true;
                 }
             }
@@ -1629,18 +1616,25 @@ public final class LateIndex {
         }
     }
 
-    /** Reads definitions and queries from the tape; keeps the fault of the latest text. */
-    private static final class Reader {
+    /** Bytes, and the reading of them as a definition or a query; keeps the fault of the latest one. */
+    private static final class Tape {
         private static final char BLANK = ' ';
 
-        private final int[] text;
+        private final int[] text = new int[TAPE_ROOM];
+        int filled;
         private int length;
         private int place;
         int faultKind;
         int faultPlace = NONE;
 
-        Reader(int[] tape) {
-            text = tape;
+        /** Four bytes, the highest first. */
+        void append(int four) {
+            for (int shift = 24; shift >= 0; shift -= 8) {
+                if (filled < TAPE_ROOM) {
+                    text[filled] = (four >>> shift) & 255;
+                    filled++;
+                }
+            }
         }
 
         boolean readDefinition(int n, Definition into) {
@@ -1675,8 +1669,10 @@ public final class LateIndex {
             return isAtEnd() || refuse(OUT_OF_PLACE);
         }
 
+        /** The first n bytes are the text; the tape is empty from then on, whatever they tell. */
         private void open(int n) {
-            length = Math.max(0, Math.min(n, text.length));
+            length = Math.max(0, Math.min(n, filled));
+            filled = 0;
             place = 0;
             faultKind = 0;
             faultPlace = NONE;

@@ -280,22 +280,24 @@ public final class AskedTest {
         longUnits();
     }
 
-    /** Just 999 can be told. */
+    /** Just 999 can be told, one more can't: nine rounds, each of them longer by one than that ahead of it. */
     private static void longUnits() {
         LateIndex x = new LateIndex();
-        x.terms(0, 0);
         x.terms(1, 9);
         Check.build(x, 1, "index a");
-        int told = 0;
-        int none = 0;
-        for (int k = 0; k < 50; k++) {
-            int units = x.units(1, 2);
-            told = Math.max(told, units);
-            none += units == -1 ? 1 : 0;
-            x.work(1, 1);
+        for (int a = 0; a < 4; a++) {
+            int[][] rows = new int[8][];
+            for (int row = 0; row < 8; row++) {
+                rows[row] = Check.row(row, a, 0, 0);
+            }
+            Check.commit(x, rows);
         }
-        due("never above 999", 1, told <= 999 ? 1 : 0);
-        due("as long as it scans there are too many", 1, none > 40 ? 1 : 0);
+        x.work(1, 2);
+        due("later", 56, x.index(1, 4));
+        due("1000", -1, x.units(1, 1));
+        Check.commit(x, Check.row(9, 1, 1, 1));
+        x.work(1, 1);
+        due("999", 999, x.units(1, 1));
     }
 
     private static void free() {

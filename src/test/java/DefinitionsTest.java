@@ -9,6 +9,7 @@ public final class DefinitionsTest {
         goodDefinitions();
         faultsOfQueries();
         goodQueries();
+        wordsLetterByLetter();
         fault();
         CHECK.close();
     }
@@ -168,6 +169,32 @@ public final class DefinitionsTest {
         due("two, close", 2, Check.query(x, "find a=1and b!22order c"));
         due("again", 4, Check.query(x, "find a=1 and a=1 and a<99 and a>0 order a"));
         due("three", 3, Check.query(x, "find c ! 5 and b < 6 and a > 7"));
+    }
+
+    /** Every word counts to its last letter, and no letter more. */
+    private static void wordsLetterByLetter() {
+        String[] definition = {"", "index", " a ", "desc", " ", "unique", " ", "where", " a=1"};
+        String[] question = {"", "find", " a=1 ", "and", " b=2 ", "order", " a ", "desc", ""};
+        for (int w = 1; w < definition.length; w += 2) {
+            eachLetterWrong(false, definition, w);
+            eachLetterWrong(true, question, w);
+        }
+    }
+
+    private static void eachLetterWrong(boolean query, String[] parts, int w) {
+        String word = parts[w];
+        int place = String.join("", java.util.Arrays.asList(parts).subList(0, w)).length();
+        for (int k = 0; k < word.length(); k++) {
+            faultyAt(query, parts, w, word.substring(0, k) + 'z' + word.substring(k + 1), place);
+        }
+        faultyAt(query, parts, w, word + "z", place);
+        faultyAt(query, parts, w, word.substring(0, word.length() - 1), place);
+    }
+
+    private static void faultyAt(boolean query, String[] parts, int w, String word, int place) {
+        String[] spoiled = parts.clone();
+        spoiled[w] = word;
+        faulty(query, String.join("", spoiled), 1, place);
     }
 
     private static void fault() {
