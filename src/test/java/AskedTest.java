@@ -16,6 +16,7 @@ public final class AskedTest {
         alike();
         units();
         free();
+        everyRowThere();
         CHECK.close();
     }
 
@@ -312,18 +313,45 @@ public final class AskedTest {
         x.roll(0);
         due("rolled", 0, x.free());
         x.roll(1);
-        for (int k = 0; k < 48; k += 8) {
-            int[][] rows = new int[8][];
-            for (int j = 0; j < 8; j++) {
-                rows[j] = Check.row(k + j, 1, 1, 1);
-            }
-            Check.commit(x, rows);
-        }
+        fill(x);
         due("none", -1, x.free());
         x.begin(0);
         x.erase(0, 30);
         due("still there", -1, x.free());
         x.commit(0);
         due("erased", 30, x.free());
+    }
+
+    private static void fill(LateIndex x) {
+        for (int k = 0; k < 48; k += 8) {
+            int[][] rows = new int[8][];
+            for (int j = 0; j < 8; j++) {
+                rows[j] = Check.row(k + j, 1, k + j, 1);
+            }
+            Check.commit(x, rows);
+        }
+    }
+
+    /** Nothing has room left then. */
+    private static void everyRowThere() {
+        LateIndex x = new LateIndex();
+        Check.ready(x, 0, "index a");
+        fill(x);
+        Check.build(x, 1, "index b desc unique");
+        due("the second is ready, too", 4, x.work(1, 200));
+        CHECK.dueAll("entries", "48, 48", x.index(0, 1), x.index(1, 1));
+        CHECK.dueAll("the last ones", "47, 0, -1", x.entry(0, 47, 0), x.entry(1, 47, 0), x.entry(1, 48, 0));
+        CHECK.dueAll("ahead of what comes behind all, or last", "48, 47", x.ahead(0, 99, 0, 0), x.ahead(1, 0, 0, 0));
+        CHECK.dueAll("ahead of what comes ahead of all", "0, 0", x.ahead(0, 0, 0, 0), x.ahead(1, 0, 99, 0));
+        CHECK.dueAll("same", "48, 1", x.same(0, 1, 0, 0), x.same(1, 0, 47, 0));
+        CHECK.dueAll("alike", "1, 47, -1, -1", x.alike(0, -1, 0), x.alike(0, 0, 47), x.alike(0, 0, 48), x.alike(0, 1, 0));
+        CHECK.dueAll("none alike", "0, -1", x.alike(1, -1, 0), x.alike(1, 0, 0));
+        CHECK.dueAll("far", "0, 0", x.far(0), x.far(1));
+        Check.query(x, "find a > 0 order b desc");
+        CHECK.dueAll("found", "48, 47, 0, -1", x.find(-1), x.found(-1, 0), x.found(-1, 47), x.found(-1, 48));
+        due("a commit that changes keys about", 7, Check.commit(x, Check.row(0, 2, 47, 0), Check.row(47, 0, 0, 0)));
+        CHECK.dueAll("the ends", "47, 0, 0, 47", x.entry(0, 0, 0), x.entry(0, 47, 0), x.entry(1, 0, 0), x.entry(1, 47, 0));
+        due("one alike", 0, Check.commit(x, Check.row(1, 2, 47, 0)));
+        due("why", 3, x.why());
     }
 }

@@ -208,6 +208,9 @@ public final class DefinitionsTest {
         CHECK.dueAll("those that leave the tape", "2, 9", x.fault(0), x.fault(1));
         x.query(0);
         CHECK.dueAll("of no byte", "1, 0", x.fault(0), x.fault(1));
+        Check.tape(x, "  index a");
+        x.query(0);
+        CHECK.dueAll("none of its bytes", "1, 0", x.fault(0), x.fault(1));
         Check.build(x, 0, "index a");
         CHECK.dueAll("none", "0, -1", x.fault(0), x.fault(1));
         x.build(0, 0);
