@@ -1,6 +1,9 @@
 /** Counts answers that are not as due, and helps to write texts onto a tape. */
 final class Check {
     private final String title;
+    private String sentence = "";
+    private int askedOfSentence = 1;
+    private int sentences;
     private int asked;
     private int wrong;
 
@@ -8,12 +11,31 @@ final class Check {
         this.title = title;
     }
 
+    /** What is checked from here on is of one sentence of the document, told by its promise and its words. */
+    void of(String told) {
+        endSentence();
+        sentence = told + ": ";
+        sentences++;
+        askedOfSentence = 0;
+    }
+
+    private void endSentence() {
+        if (askedOfSentence == 0) {
+            complain(sentence + "nothing was asked");
+        }
+    }
+
     void due(String call, int want, int got) {
         asked++;
+        askedOfSentence++;
         if (want != got) {
-            wrong++;
-            System.out.println(title + ": " + call + " answered " + got + ", due is " + want);
+            complain(sentence + call + " answered " + got + ", due is " + want);
         }
+    }
+
+    private void complain(String what) {
+        wrong++;
+        System.out.println(title + ": " + what);
     }
 
     void dueAll(String call, String want, int... got) {
@@ -22,7 +44,9 @@ final class Check {
     }
 
     void close() {
-        System.out.println(title + ": " + asked + " answers, " + wrong + " wrong");
+        endSentence();
+        System.out.println(title + ": " + (sentences > 0 ? sentences + " sentences, " : "") + asked + " answers, " + wrong
+            + " wrong");
         if (wrong != 0 || asked == 0) {
             System.exit(1);
         }
